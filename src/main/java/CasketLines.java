@@ -275,7 +275,7 @@ public final class CasketLines {
     private int leastTwoMendings(int solving) {
         for (int casket = 0; casket < MOST_CASKETS && casket < house.caskets; casket++) {
             for (int line = 0; line < LINES; line++) {
-                long worlds = agreeing(casket, line, house.caskets);
+                long worlds = agreeing(casket, line);
                 int rest = leastMending(solving, casket + 1, worlds, 1 << casket);
                 if (rest != NONE) {
                     return 1000 * (100 * casket + figuresOf(line)) + rest;
@@ -291,7 +291,7 @@ public final class CasketLines {
             int others = ALL_LINES & ~mended & ~(1 << casket);
             long left = worlds & readingsOf(house, now.lines, others);
             for (int line = 0; line < LINES; line++) {
-                int fits = fitsOf(left & agreeing(casket, line, house.caskets));
+                int fits = fitsOf(left & agreeing(casket, line));
                 if ((solving >> fits & 1) == 1) {
                     return 100 * casket + figuresOf(line);
                 }
@@ -332,7 +332,7 @@ public final class CasketLines {
         int least = NONE;
         long others = readingsOf(house, now.lines, ALL_LINES & ~(1 << casket));
         for (int line = 0; line < LINES; line++) {
-            if (fitsOf(others & agreeing(casket, line, house.caskets)) == 1 << now.picture) {
+            if (fitsOf(others & agreeing(casket, line)) == 1 << now.picture) {
                 many++;
                 least = least == NONE ? figuresOf(line) : least;
             }
@@ -553,14 +553,18 @@ public final class CasketLines {
         return casket < 0 || casket >= MOST_CASKETS ? 0L : WORLDS_OF_ONE << SETS * casket;
     }
 
-    /** The worlds in which a line is true just if what it says is so. */
-    private static long agreeing(int casket, int line, int caskets) {
+    /**
+     * The worlds in which a line is true just if what it says is so. Whether there is a casket a need not
+     * be looked at: the worlds of a house (WORLDS_OF) neither have the picture in one beyond its caskets
+     * nor have a line true there, so what is said of it comes out as not so.
+     */
+    private static long agreeing(int casket, int line) {
         int sort = line / NUMBERS;
         int a = line % NUMBERS;
-        long so = 0L;
+        long so;
         if (sort < 2) {
             so = worldsWith(casket);
-        } else if (a < caskets) {
+        } else {
             so = sort < 4 ? worldsWith(a) : maskAt(TRUE_LINE, a);
         }
         // Of each two sorts the second denies what the first says.
@@ -576,7 +580,7 @@ public final class CasketLines {
         }
         for (int i = 0; i < lines.length && i < house.caskets; i++) {
             if ((come >> i & 1) == 1) {
-                worlds &= agreeing(i, lines[i], house.caskets);
+                worlds &= agreeing(i, lines[i]);
             }
         }
         return worlds;

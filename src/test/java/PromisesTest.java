@@ -414,6 +414,18 @@ public final class PromisesTest {
         is("12: the first is forgotten", STATE, x.undo());
         is("12: it stays moved", 2, x.count(4));
         is("12: sung as at first", 0, x.casket(0, 3));
+        CasketLines mended = housed(TWO_TRUE);
+        for (int i = 1; i <= 20; i++) {
+            mended.mend(i % 3, i % 6, i % 4);
+        }
+        // Of the first six mendings only 4, 5 and 6 are seen, and none of them is undone.
+        for (int left = 13; left >= 0; left--) {
+            is("12: undo() of mendings", left, mended.undo());
+        }
+        for (int i = 4; i <= 6; i++) {
+            is("12: sort of mending " + i, i % 6, mended.casket(i % 3, 1));
+            is("12: a of mending " + i, i % 4, mended.casket(i % 3, 2));
+        }
     }
 
     private static void promise13Lines() {
@@ -713,6 +725,16 @@ public final class PromisesTest {
         x.mend(0, 5, 3);
         is("25: a slot can be gone on from once more", 1, x.again(0));
         Due.same("25: again(0) once more", kept, Due.sight(x));
+        CasketLines picks = housed(TWO_TRUE);
+        picks.attempt();
+        picks.attempt();
+        picks.keep(0);
+        picks.undo();
+        picks.sing(0);
+        picks.sing(1);
+        is("25: another pick", 2, picks.attempt());
+        is("25: again(0), two have tried", 2, picks.again(0));
+        is("25: what it picked when it was kept", 0, picks.wooer(1, 2));
         CasketLines fresh = new CasketLines();
         is("25: keep without a house", 0, fresh.keep(1));
         is("25: again without a house", 0, fresh.again(1));
