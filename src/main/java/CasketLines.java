@@ -325,8 +325,9 @@ public final class CasketLines {
         if (!house.hasCasket(casket)) {
             return UNKNOWN;
         }
+        // Only the first line may be NONE; how many there are is a number even without a picture.
         if (now.picture == NONE) {
-            return NONE;
+            return first ? NONE : 0;
         }
         int many = 0;
         int least = NONE;

@@ -423,9 +423,6 @@ final class PlainHouse {
         if (noCasket(c)) {
             return UNKNOWN;
         }
-        if (now.picture == NONE) {
-            return NONE;
-        }
         List<Integer> good = new ArrayList<>();
         for (int line = 0; line < 100; line++) {
             if (isLine(line)) {

@@ -517,8 +517,19 @@ public final class PromisesTest {
         }
         CasketLines none = housed("G9C000C100");
         is("16: no picture, the first", NONE, none.said(0, true));
-        is("16: no picture", NONE, none.said(0, false));
+        is("16: no picture, how many", 0, none.said(0, false));
         is("16: no picture, no casket", UNKNOWN, none.said(2, false));
+        is("16: no picture, no casket, the first", UNKNOWN, none.said(2, true));
+        // The one line must be true: sort 0 with any a, 2 and 4 with 0, 3 and 5 with 1 to 3.
+        CasketLines one = housed("G1C043");
+        is("16: one casket, no picture, how many", 0, one.said(0, false));
+        is("16: one casket, no picture, the first", NONE, one.said(0, true));
+        one.move(0);
+        is("16: the picture has come, how many", 12, one.said(0, false));
+        is("16: the picture has come, the first", 0, one.said(0, true));
+        one.undo();
+        is("16: the picture is gone again, how many", 0, one.said(0, false));
+        is("16: the picture is gone again, the first", NONE, one.said(0, true));
     }
 
     private static void belief(CasketLines x, int c, int f, int above, int below) {
