@@ -96,11 +96,11 @@ public final class LanguageTest {
         room.getThreadAllocatedBytes(self);
         long before = room.getThreadAllocatedBytes(self);
         int sum = 0;
-        for (int i = 0; i < 50; i++) {
+        for (int i = 0; i < 16; i++) {
             sum += everyCall(x, i % 4, i % 2 == 0);
         }
         long made = room.getThreadAllocatedBytes(self) - before;
-        Due.is("bytes made by 50 rounds of every call (" + made + ", sum " + sum + ") are few", 1, made < 2000 ? 1 : 0);
+        Due.is("bytes made by 16 rounds of every call (" + made + ", sum " + sum + ") are few", 1, made < 2000 ? 1 : 0);
     }
 
     private static int everyCall(CasketLines x, int c, boolean yes) {

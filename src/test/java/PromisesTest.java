@@ -3,15 +3,11 @@ public final class PromisesTest {
     private static final int UNKNOWN = -1, OUTSIDE = -2, STATE = -3, FULL = -4, NONE = -9;
     private static final int[] WRONG_CASKETS = {-1, 3, 4, 31, 32, Integer.MIN_VALUE, Integer.MAX_VALUE};
 
-    /**
-     * Lines: 0 "it is here", 1 "it is not here", 2 "it is in casket 2". By where it is, true are lines
-     * 0 and 1 (casket 0), none (casket 1), 1 and 2 (casket 2).
-     */
-    private static final String LINES = "C000D110C222";
-    private static final String WOOERS = "W0W1W2W3";
-    private static final String TWO_TRUE = "G2" + LINES + WOOERS;
+    private static final String LINES = Made.LINES;
+    private static final String WOOERS = Made.WOOERS;
+    private static final String TWO_TRUE = Made.TWO_TRUE;
     private static final String NONE_TRUE = "G0" + LINES + WOOERS;
-    private static final String ANY_TRUE = "G9" + LINES + WOOERS;
+    private static final String ANY_TRUE = Made.ANY_TRUE;
 
     public static void main(String[] args) {
         promise1NewObject();
@@ -375,26 +371,27 @@ public final class PromisesTest {
 
     private static void promise12Undo() {
         CasketLines x = housed(TWO_TRUE);
-        long[][] sights = new long[7][];
-        sights[0] = Due.sight(x);
+        long[] first = Due.sight(x);
+        long[][] glances = new long[6][];
+        glances[0] = Due.glance(x);
         x.attempt();
-        sights[1] = Due.sight(x);
+        glances[1] = Due.glance(x);
         x.mend(0, 3, 1);
-        sights[2] = Due.sight(x);
+        glances[2] = Due.glance(x);
         x.move(0);
-        sights[3] = Due.sight(x);
+        glances[3] = Due.glance(x);
         x.sing(2);
-        sights[4] = Due.sight(x);
+        glances[4] = Due.glance(x);
         x.attempt();
         is("12: wed", 1, x.count(8));
-        sights[5] = Due.sight(x);
+        glances[5] = Due.glance(x);
         x.sing(2);
         for (int left = 5; left >= 0; left--) {
             is("12: undo()", left, x.undo());
-            Due.same("12: undo() back to " + left, sights[left], Due.sight(x));
+            Due.same("12: undo() back to " + left, glances[left], Due.glance(x));
         }
         is("12: there is none", STATE, x.undo());
-        Due.same("12: refused undo()", sights[0], Due.sight(x));
+        Due.same("12: refused undo()", first, Due.sight(x));
     }
 
     private static void promise12ForgottenActs() {
