@@ -123,6 +123,8 @@ public final class RiddleEdgesTest {
         riddle("two of two lines", Due.housed("G1C050D151"), 12, 2, 132);
         riddle("the last two of four lines", Due.housed("G9C000C000C052D053"), 8, 2, 200300);
         riddle("the last two of four lines", Due.housed("G1C000C000C052D053"), 12, 2, 210320);
+        // "on unlike CASKETS": "here" and "in casket 2" both on casket 0 would shut it out, no other two do.
+        riddle("two lines on one casket", Due.housed("G9C002D001"), 12, NONE, NONE);
     }
 
     /** "the fewest LINES to be MENDED (0 to 2 ..)". */

@@ -14,6 +14,7 @@ public final class SlotEdgesTest {
         againEmptiesTheRow();
         againBringsBackWhatIsKept();
         againLeavesTextAndSeed();
+        againBringsBackWhatWasPicked();
         againBringsBackAWedding();
         againOnceMore();
         againOfTheTwoSlots();
@@ -153,6 +154,30 @@ public final class SlotEdgesTest {
         nowhere.move(1);
         nowhere.again(0);
         is("25: the picture is nowhere", NONE, nowhere.count(4));
+    }
+
+    /** Who has tried has picked something; another pick of the same wooer since then does not count. */
+    private static void againBringsBackWhatWasPicked() {
+        CasketLines x = Made.twoTrue();
+        x.attempt();
+        x.attempt();
+        x.keep(1);
+        x.undo();
+        x.sing(0);
+        x.sing(1);
+        is("25: the second picks another one", 2, x.attempt());
+        is("25: again(1)", 2, x.again(1));
+        is("25: what the first picked", 0, x.wooer(0, 2));
+        is("25: what the second picked", 0, x.wooer(1, 2));
+        CasketLines none = Made.allSung();
+        none.attempt();
+        none.keep(0);
+        none.undo();
+        none.sing(2);
+        none.attempt();
+        none.again(0);
+        is("25: one that could not pick", NONE, none.wooer(0, 2));
+        is("25: it has tried", 1, none.count(7));
     }
 
     private static void againLeavesTextAndSeed() {
