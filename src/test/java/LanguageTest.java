@@ -5,7 +5,9 @@ import java.lang.reflect.Method;
 import java.lang.reflect.Modifier;
 import java.nio.file.Files;
 import java.nio.file.Path;
+import java.util.Map;
 import java.util.Set;
+import java.util.TreeMap;
 import java.util.TreeSet;
 import java.util.regex.Matcher;
 import java.util.regex.Pattern;
@@ -24,6 +26,9 @@ public final class LanguageTest {
         "\\bprotected\\b", "Exact\\b", "\\bhashCode\\b", "\\btoString\\b", "\\bpackage\\b", "\\bSystem\\b",
         "\\bstatic\\s*\\{"};
 
+    /** A method's first line: how far it stands in, its name, its parameters. */
+    private static final Pattern METHOD = Pattern.compile("(?m)^( +)[a-z][\\w\\[\\] ]* (\\w+)\\(([^)]*)\\) \\{$");
+
     public static void main(String[] args) throws Exception {
         face();
         String code = withoutComments(Files.readString(Path.of("src/main/java/CasketLines.java")));
@@ -32,6 +37,9 @@ public final class LanguageTest {
             Due.is("a search for " + pattern, 0, found.find() ? 1 : 0);
         }
         methodsStayShort(code);
+        classesStaySmall();
+        libraryIsListed(code);
+        callsStayShallow(code);
         callsMakeNothing();
         Due.end();
     }
@@ -76,16 +84,73 @@ public final class LanguageTest {
     }
 
     private static void methodsStayShort(String code) {
-        Matcher method = Pattern.compile("(?m)^( +)[a-z][\\w\\[\\] ]* \\w+\\(([^)]*)\\) \\{$").matcher(code);
+        Matcher method = METHOD.matcher(code);
         int many = 0;
         while (method.find()) {
             many++;
             int end = code.indexOf("\n" + method.group(1) + "}", method.end());
             long lines = code.substring(method.start(), end).chars().filter(c -> c == '\n').count();
             Due.is(method.group().trim() + " has " + lines + " lines; is it short", 1, lines <= 60 ? 1 : 0);
-            Due.is(method.group().trim() + " takes at most seven", 1, method.group(2).split(",").length <= 7 ? 1 : 0);
+            Due.is(method.group().trim() + " takes at most seven", 1, method.group(3).split(",").length <= 7 ? 1 : 0);
         }
         Due.is("methods were found", 1, many > 40 ? 1 : 0);
+    }
+
+    private static void classesStaySmall() {
+        Class<?>[] inside = CasketLines.class.getDeclaredClasses();
+        Due.is("classes (" + (1 + inside.length) + ") are twelve at most", 1, 1 + inside.length <= 12 ? 1 : 0);
+        fieldsAreFew(CasketLines.class);
+        for (Class<?> type : inside) {
+            fieldsAreFew(type);
+        }
+    }
+
+    private static void fieldsAreFew(Class<?> type) {
+        int many = 0;
+        for (Field field : type.getDeclaredFields()) {
+            many += Modifier.isStatic(field.getModifiers()) ? 0 : 1;
+        }
+        Due.is("fields of " + type + " (" + many + ") are twenty at most", 1, many <= 20 ? 1 : 0);
+    }
+
+    /** Of the library only these are used; any other would have to be held against rule 4 first. */
+    private static void libraryIsListed(String code) {
+        Set<String> listed = Set.of("Integer.bitCount", "Long.bitCount", "Math.max", "Math.abs");
+        Matcher use = Pattern.compile("\\b([A-Z]\\w*[a-z]\\w*\\.\\w+)\\(").matcher(code);
+        while (use.find()) {
+            Due.is(use.group(1) + " is listed", 1, listed.contains(use.group(1)) ? 1 : 0);
+        }
+        Due.is("signs beyond 127 in the program", 0, code.chars().filter(c -> c > 127).count());
+    }
+
+    /** Rule 11: eight calls deep at most. Methods of one name count as one, so the truth may only be less. */
+    private static void callsStayShallow(String code) {
+        Map<String, Set<String>> called = new TreeMap<>();
+        Matcher method = METHOD.matcher(code);
+        while (method.find()) {
+            int end = code.indexOf("\n" + method.group(1) + "}", method.end());
+            Set<String> names = called.computeIfAbsent(method.group(2), name -> new TreeSet<>());
+            Matcher call = Pattern.compile("\\b(\\w+)\\(").matcher(code.substring(method.end(), end));
+            while (call.find()) {
+                names.add(call.group(1));
+            }
+        }
+        for (String name : called.keySet()) {
+            int depth = depthOf(name, called, 0);
+            Due.is(name + " is " + depth + " calls deep, eight at most", 1, depth <= 8 ? 1 : 0);
+        }
+    }
+
+    /** There is no recursion in the program; if some came, the depth would grow to a bound and be seen. */
+    private static int depthOf(String name, Map<String, Set<String>> called, int above) {
+        if (!called.containsKey(name) || above > 20) {
+            return 0;
+        }
+        int deepest = 0;
+        for (String next : called.get(name)) {
+            deepest = Math.max(deepest, depthOf(next, called, above + 1));
+        }
+        return deepest + 1;
     }
 
     /** All rows are made in the constructor, so that a long run of calls needs no more room than a short one. */
